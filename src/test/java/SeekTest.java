@@ -59,6 +59,8 @@ public final class SeekTest {
         // Gifts of a below 0 do not matter.
         due.is("seek(5)", x.seek(5), 13);
         asks(due, x, "seek(5)", 3, 5, 3, 4);
+        // Gifts of 0 are not below 0.
+        due.is("seek(10) past 0", withGifts(5, 0, 5).seek(10), 2);
     }
 
     private static void sumsAreLongs(Due due) {
